@@ -496,26 +496,44 @@ public final class SoundStream {
         }
     }
 
-    /** Finds how the rests of a subframe take the fewest bits. */
-    private static final class Parts {
-        static final int FINEST = 5;
-        static final int ESCAPE = 15;
+    /** The rests of a subframe's samples, and how they take the fewest bits. */
+    private static final class Rests {
+        private static final int FINEST = 5;
+        private static final int ESCAPE = 15;
 
+        private final int[] rests = new int[MOST_BLOCK];
         /** Of each part and k: the zeros that its rests would take. */
         private final long[][] zeros = new long[1 << FINEST][ESCAPE];
         /** Of each part: the bits that any of its folded rests has. */
         private final int[] used = new int[1 << FINEST];
+        private int size;
+        private int order;
+        private int k;
+        private int n;
         int q;
-        int k;
-        int n;
 
-        /** The fewest bits for the rests behind the first ones; q is then the one that takes them. */
-        long weigh(int[] rests, int size, int order) {
-            int finest = finest(size, order);
-            collect(rests, size, order, finest);
+        /** With order 0 the rests are the samples. */
+        void begin(int[] samples, int size) {
+            System.arraycopy(samples, 0, rests, 0, size);
+            this.size = size;
+            order = 0;
+        }
+
+        /** The rests of one order more are the differences of those before. */
+        void raiseOrder() {
+            order++;
+            for (int i = size - 1; i >= order; i--) {
+                rests[i] -= rests[i - 1];
+            }
+        }
+
+        /** The fewest bits for all rests of this order; q is then the one that takes them. */
+        long weigh() {
+            int finest = finestParts();
+            collect(finest);
             long fewest = Long.MAX_VALUE;
             for (int tried = finest; tried >= 0; tried--) {
-                long bits = bitsOfAll(size, order, tried);
+                long bits = bitsOfAll(tried);
                 // the smaller q comes first in the document's order, so it wins a tie
                 if (bits <= fewest) {
                     fewest = bits;
@@ -526,8 +544,30 @@ public final class SoundStream {
             return fewest;
         }
 
+        void write(Writer out, int q) {
+            collect(q);
+            out.put(2, 0);
+            out.put(4, q);
+            int each = size >> q;
+            int from = order;
+            for (int part = 0; part < 1 << q; part++) {
+                int to = (part + 1) * each;
+                bitsOf(part, to - from);
+                writePart(out, from, to);
+                from = to;
+            }
+        }
+
+        private int finestParts() {
+            int finest = 0;
+            while (finest < FINEST && (size & ((2 << finest) - 1)) == 0 && size >> (finest + 1) > order) {
+                finest++;
+            }
+            return finest;
+        }
+
         /** Makes 2^q parts ready for bitsOf(). */
-        void collect(int[] rests, int size, int order, int q) {
+        private void collect(int q) {
             int each = size >> q;
             int i = order;
             for (int part = 0; part < 1 << q; part++) {
@@ -539,8 +579,24 @@ public final class SoundStream {
             }
         }
 
+        private void addRest(int part, int folded) {
+            used[part] |= folded;
+            for (int tried = 0; tried < ESCAPE && folded >> tried > 0; tried++) {
+                zeros[part][tried] += folded >> tried;
+            }
+        }
+
+        private long bitsOfAll(int q) {
+            int each = size >> q;
+            long bits = 6;
+            for (int part = 0; part < 1 << q; part++) {
+                bits += bitsOf(part, part == 0 ? each - order : each);
+            }
+            return bits;
+        }
+
         /** The fewest bits for a part with so many rests; k, and n if that is needed, take them then. */
-        long bitsOf(int part, int count) {
+        private long bitsOf(int part, int count) {
             long fewest = Long.MAX_VALUE;
             for (int tried = 0; tried < ESCAPE; tried++) {
                 long bits = 4 + (tried + 1L) * count + zeros[part][tried];
@@ -559,34 +615,6 @@ public final class SoundStream {
             return fewest;
         }
 
-        static int fold(int rest) {
-            return rest << 1 ^ rest >> 31;
-        }
-
-        private static int finest(int size, int order) {
-            int q = 0;
-            while (q < FINEST && (size & ((2 << q) - 1)) == 0 && size >> (q + 1) > order) {
-                q++;
-            }
-            return q;
-        }
-
-        private void addRest(int part, int folded) {
-            used[part] |= folded;
-            for (int tried = 0; tried < ESCAPE && folded >> tried > 0; tried++) {
-                zeros[part][tried] += folded >> tried;
-            }
-        }
-
-        private long bitsOfAll(int size, int order, int q) {
-            int each = size >> q;
-            long bits = 6;
-            for (int part = 0; part < 1 << q; part++) {
-                bits += bitsOf(part, part == 0 ? each - order : each);
-            }
-            return bits;
-        }
-
         private void joinPairs(int q) {
             for (int part = 0; part < 1 << q >> 1; part++) {
                 for (int tried = 0; tried < ESCAPE; tried++) {
@@ -595,13 +623,33 @@ public final class SoundStream {
                 used[part] = used[2 * part] | used[2 * part + 1];
             }
         }
+
+        private void writePart(Writer out, int from, int to) {
+            out.put(4, k);
+            if (k == ESCAPE) {
+                out.put(5, n);
+            }
+            for (int i = from; i < to; i++) {
+                if (k == ESCAPE) {
+                    out.put(n, rests[i]);
+                } else {
+                    int folded = fold(rests[i]);
+                    out.put(folded >> k, 0);
+                    out.put(1, 1);
+                    out.put(k, folded);
+                }
+            }
+        }
+
+        private static int fold(int rest) {
+            return rest << 1 ^ rest >> 31;
+        }
     }
 
-    /** The samples of one channel in one frame, and how they take the fewest bits. */
+    /** The samples of one channel in one frame, and the type that takes the fewest bits. */
     private static final class Subframe {
         private final int[] samples = new int[MOST_BLOCK];
-        private final int[] rests = new int[MOST_BLOCK];
-        private final Parts parts;
+        private final Rests rests;
         private int size;
         private int width;
         private int q;
@@ -609,8 +657,8 @@ public final class SoundStream {
         int w;
         long bits;
 
-        Subframe(Parts parts) {
-            this.parts = parts;
+        Subframe(Rests rests) {
+            this.rests = rests;
         }
 
         void setSample(int i, int v) {
@@ -622,22 +670,19 @@ public final class SoundStream {
             this.size = size;
             boolean alike = dropZeros();
             width = depth - w;
-            type = TYPE_PLAIN;
-            long fewest = (long) width * size;
-            if (alike) {
-                type = TYPE_CONSTANT;
-                fewest = width;
-            }
-            System.arraycopy(samples, 0, rests, 0, size);
+            type = alike ? TYPE_CONSTANT : TYPE_PLAIN;
+            // of a single sample both take as many bits, and the constant comes first
+            long fewest = alike ? width : (long) width * size;
+            rests.begin(samples, size);
             for (int order = 0; order <= MOST_FIXED_ORDER && order < size; order++) {
                 if (order > 0) {
-                    differ(order);
+                    rests.raiseOrder();
                 }
-                long predicted = (long) width * order + parts.weigh(rests, size, order);
+                long predicted = (long) width * order + rests.weigh();
                 if (predicted < fewest) {
                     fewest = predicted;
                     type = TYPE_FIXED + order;
-                    q = parts.q;
+                    q = rests.q;
                 }
             }
             bits = 8 + w + fewest;
@@ -648,12 +693,20 @@ public final class SoundStream {
             out.put(1, w > 0 ? 1 : 0);
             // w - 1 zeros and a one are the number 1 in w bits
             out.put(w, 1);
-            int first = type == TYPE_CONSTANT ? 1 : type == TYPE_PLAIN ? size : type - TYPE_FIXED;
+            if (type == TYPE_CONSTANT) {
+                out.put(width, samples[0]);
+                return;
+            }
+            int first = type == TYPE_PLAIN ? size : type - TYPE_FIXED;
             for (int i = 0; i < first; i++) {
                 out.put(width, samples[i]);
             }
-            if (type >= TYPE_FIXED) {
-                writeRests(out, first);
+            if (type != TYPE_PLAIN) {
+                rests.begin(samples, size);
+                for (int order = 0; order < first; order++) {
+                    rests.raiseOrder();
+                }
+                rests.write(out, q);
             }
         }
 
@@ -670,49 +723,6 @@ public final class SoundStream {
                 samples[i] >>= w;
             }
             return alike;
-        }
-
-        /** The rests of one order more are the differences of those before. */
-        private void differ(int order) {
-            for (int i = size - 1; i >= order; i--) {
-                rests[i] -= rests[i - 1];
-            }
-        }
-
-        private void writeRests(Writer out, int order) {
-            System.arraycopy(samples, 0, rests, 0, size);
-            for (int o = 1; o <= order; o++) {
-                differ(o);
-            }
-            parts.collect(rests, size, order, q);
-            out.put(2, 0);
-            out.put(4, q);
-            int each = size >> q;
-            int from = order;
-            for (int part = 0; part < 1 << q; part++) {
-                int to = (part + 1) * each;
-                parts.bitsOf(part, to - from);
-                writePart(out, from, to);
-                from = to;
-            }
-        }
-
-        private void writePart(Writer out, int from, int to) {
-            int k = parts.k;
-            out.put(4, k);
-            if (k == Parts.ESCAPE) {
-                out.put(5, parts.n);
-                for (int i = from; i < to; i++) {
-                    out.put(parts.n, rests[i]);
-                }
-                return;
-            }
-            for (int i = from; i < to; i++) {
-                int folded = Parts.fold(rests[i]);
-                out.put(folded >> k, 0);
-                out.put(1, 1);
-                out.put(k, folded);
-            }
         }
     }
 
@@ -737,11 +747,11 @@ public final class SoundStream {
             this.bytes = bytes;
             this.digest = digest;
             out = new Writer(bytes);
-            Parts parts = new Parts();
-            first = new Subframe(parts);
-            second = new Subframe(parts);
-            middle = new Subframe(parts);
-            difference = new Subframe(parts);
+            Rests rests = new Rests();
+            first = new Subframe(rests);
+            second = new Subframe(rests);
+            middle = new Subframe(rests);
+            difference = new Subframe(rests);
         }
 
         void write(boolean bySample) {
