@@ -28,7 +28,7 @@ final class Check {
     }
 
     /** The very class: one below it would be the machine's own. */
-    private void thrown(String what, Class<?> want, Call call) {
+    void thrown(String what, Class<?> want, Call call) {
         seen++;
         Class<?> got = null;
         try {

@@ -2,6 +2,8 @@
 final class Maker {
     int least = 16;
     int greatest = 16;
+    int leastFrame;
+    int greatestFrame;
     int rate = 8000;
     int channels = 1;
     int depth = 8;
@@ -26,7 +28,7 @@ final class Maker {
     Maker start() {
         out.put(8, 102).put(8, 76).put(8, 97).put(8, 67);
         out.put(1, onlyBlock ? 1 : 0).put(7, 0).put(24, 34);
-        out.put(16, least).put(16, greatest).put(24, 0).put(24, 0);
+        out.put(16, least).put(16, greatest).put(24, leastFrame).put(24, greatestFrame);
         out.put(20, rate).put(3, channels - 1).put(5, depth - 1).put(36, samples);
         for (byte each : sum) {
             out.put(8, each);
@@ -59,6 +61,12 @@ final class Maker {
     Maker head() {
         headOnly();
         out.put(8, out.check(8, frameFrom));
+        return this;
+    }
+
+    Maker headWithAnotherCheck() {
+        headOnly();
+        out.put(8, out.check(8, frameFrom) ^ 1);
         return this;
     }
 
