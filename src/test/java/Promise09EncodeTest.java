@@ -262,6 +262,29 @@ public final class Promise09EncodeTest {
         x.feed(3, 1);
         CHECK.due("fed bytes are not kept", x.encode(false), length);
         CHECK.due("decode()", x.decode(), 1);
+        for (Recipes.Recipe recipe : Recipes.ALL) {
+            oneBehindAnother(recipe.make());
+        }
+    }
+
+    /** Nothing of what was encoded before lasts: no bytes, no frames, no sizes of frames. */
+    private static void oneBehindAnother(SoundStream x) {
+        x.form(2, 9, 20, 77);
+        for (int samples : new int[] {0, 41, 0, 20}) {
+            SoundStream fresh = new SoundStream();
+            fresh.form(2, 9, 20, 77);
+            x.clear();
+            for (SoundStream each : new SoundStream[] {x, fresh}) {
+                each.noise(0, samples, 3, 8);
+                each.ramp(1, samples, 3, 8);
+            }
+            int length = fresh.encode(true);
+            CHECK.due("encode() behind another one", x.encode(true), length);
+            CHECK.due("frames", x.told(1), fresh.told(1));
+            for (int i = 0; i < length; i += 8) {
+                CHECK.due("bytes from " + i + " behind another one", x.stream(i), fresh.stream(i));
+            }
+        }
     }
 
     private static void rowsNotAlike() {

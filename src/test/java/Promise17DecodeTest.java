@@ -28,6 +28,8 @@ public final class Promise17DecodeTest {
         partsOfRests();
         fullRows();
         noneIsDecodedThen();
+        oneFrameBehindAnother();
+        oneStreamBehindAnother();
         nothingElseChanges();
         CHECK.end();
     }
@@ -474,6 +476,70 @@ public final class Promise17DecodeTest {
         DECODING.wrong("and again", x, 13, length);
         x.cut(length);
         DECODING.right("as it was", x, 40);
+    }
+
+    /** Nothing of a subframe lasts for the next one: factors, h, w and parts are those of each. */
+    private static void oneFrameBehindAnother() {
+        Bits[] bodies = {
+            new Bits().put(8, 64).put(8, 90).put(4, 2).put(5, 1).put(3, 1).put(2, 0).put(4, 0).put(4, 15).put(5, 0),
+            new Bits().put(8, 18).put(8, 50).put(2, 0).put(4, 0).put(4, 15).put(5, 0),
+            new Bits().put(8, 20).put(8, 50).put(8, 51).put(2, 0).put(4, 0).put(4, 15).put(5, 0),
+            new Bits().put(8, 1).put(3, 1).put(5, 3),
+            new Bits().put(8, 0).put(8, 33),
+            new Bits().put(8, 16).put(2, 1).put(4, 2).put(5, 0).put(1, 1).put(5, 31).put(5, 0).put(5, 1).put(2, 2).put(5, 3).put(4, 8)
+        };
+        int[][] due = {{90, 45, 22, 11}, {50, 50, 50, 50}, {50, 51, 52, 53}, {24, 24, 24, 24}, {33, 33, 33, 33}, {0, 0, 0, 0}};
+        for (int one = 0; one < bodies.length; one++) {
+            for (int two = 0; two < bodies.length; two++) {
+                Maker pair = new Maker();
+                pair.channels = 2;
+                pair.c = 1;
+                pair.size = 4;
+                SoundStream x = pair.start().head().put(bodies[one]).put(bodies[two]).end().fed();
+                String what = "subframe " + two + " behind " + one;
+                DECODING.right(what, x, 4);
+                heard(what, x, 0, due[one]);
+                heard(what, x, 1, due[two]);
+            }
+        }
+    }
+
+    /** Nothing of a stream lasts for the next decode() of the same object, whether it had a fault or not. */
+    private static void oneStreamBehindAnother() {
+        byte[][] streams = new byte[Recipes.ALL.length + 3][];
+        for (int i = 0; i < Recipes.ALL.length; i++) {
+            SoundStream x = Recipes.ALL[i].make();
+            streams[i] = Recipes.NAMES[i].equals("a full stream") ? new byte[] {102, 76, 97} : bytes(x);
+        }
+        Maker by = sized(1200, 24);
+        by.way = 1;
+        streams[Recipes.ALL.length] = by.start().frameOf(-7).out.bytes();
+        Maker known = sized(20, 4);
+        known.samples = 20;
+        known.least = 20;
+        streams[Recipes.ALL.length + 1] = known.start().frameOf(-7).out.bytes();
+        Maker less = sized(20, 4);
+        less.samples = 21;
+        streams[Recipes.ALL.length + 2] = less.start().frameOf(-7).out.bytes();
+        for (byte[] one : streams) {
+            for (byte[] two : streams) {
+                SoundStream x = Maker.fed(one);
+                x.decode();
+                x.cut(0);
+                Maker.feed(x, two);
+                SoundStream fresh = Maker.fed(two);
+                CHECK.due("decode() behind another one", x.decode(), fresh.decode());
+                CHECK.due("all that is seen then", State.of(x).equals(State.of(fresh)) ? 1 : 0, 1);
+            }
+        }
+    }
+
+    private static byte[] bytes(SoundStream x) {
+        byte[] all = new byte[x.told(0)];
+        for (int i = 0; i < all.length; i++) {
+            all[i] = (byte) x.stream(i);
+        }
+        return all;
     }
 
     /** decode() leaves the rows, the stream and what was encoded, with a fault and without one. */

@@ -108,6 +108,11 @@ final class Maker {
 
     static SoundStream fed(byte[] all) {
         SoundStream x = new SoundStream();
+        feed(x, all);
+        return x;
+    }
+
+    static void feed(SoundStream x, byte[] all) {
         for (int i = 0; i < all.length; i += 8) {
             int n = Math.min(8, all.length - i);
             long eight = 0;
@@ -116,7 +121,6 @@ final class Maker {
             }
             x.feed(n, eight);
         }
-        return x;
     }
 
     int bytes() {
