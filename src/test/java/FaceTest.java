@@ -1,4 +1,5 @@
 import java.lang.reflect.Constructor;
+import java.lang.reflect.Field;
 import java.lang.reflect.InvocationTargetException;
 import java.lang.reflect.Method;
 import java.lang.reflect.Modifier;
@@ -44,6 +45,7 @@ public final class FaceTest {
         for (Method method : SoundStream.class.getDeclaredMethods()) {
             if (!Modifier.isPrivate(method.getModifiers())) {
                 got.add(written(method));
+                CHECK.due("the modifiers of " + method.getName(), method.getModifiers(), Modifier.PUBLIC);
             }
         }
         TreeSet<String> due = new TreeSet<>(FACE);
@@ -52,8 +54,28 @@ public final class FaceTest {
         Constructor<?>[] constructors = SoundStream.class.getDeclaredConstructors();
         CHECK.due("constructors", constructors.length, 1);
         CHECK.due("its modifiers", constructors[0].getModifiers(), Modifier.PUBLIC);
+        CHECK.due("its parameters", constructors[0].getParameterCount(), 0);
+        CHECK.due("what it is said to throw", constructors[0].getExceptionTypes().length, 0);
+        CHECK.due("what the class extends is Object", SoundStream.class.getSuperclass() == Object.class ? 1 : 0, 1);
+        CHECK.due("interfaces", SoundStream.class.getInterfaces().length, 0);
+        constant();
+    }
+
+    private static void constant() {
         long fields = Arrays.stream(SoundStream.class.getDeclaredFields()).filter(f -> !Modifier.isPrivate(f.getModifiers())).count();
         CHECK.due("fields that are not private", fields, 1);
+        // a switch takes nothing but a constant
+        switch (-1) {
+            case SoundStream.NONE:
+                break;
+            default:
+                CHECK.due("NONE", SoundStream.NONE, -1);
+        }
+        for (Field field : SoundStream.class.getFields()) {
+            CHECK.due("the one public field is NONE", field.getName().equals("NONE") && field.getType() == int.class ? 1 : 0, 1);
+            CHECK.due("its modifiers", field.getModifiers(), Modifier.PUBLIC | Modifier.STATIC | Modifier.FINAL);
+        }
+        CHECK.due("public fields", SoundStream.class.getFields().length, 1);
     }
 
     private static String written(Method method) {

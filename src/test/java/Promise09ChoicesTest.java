@@ -23,14 +23,9 @@ public final class Promise09ChoicesTest {
     }
 
     private static SoundStream encoded(int depth, int... samples) {
-        SoundStream x = new SoundStream();
-        x.form(1, depth, 256, 1);
-        for (int v : samples) {
-            x.sample(0, v);
-        }
-        x.encode(false);
-        compare("samples by hand", x, 1, depth, 256, samples.length, false);
-        return x;
+        Rows rows = new Rows(1, depth, 1).these(0, samples);
+        compare("samples by hand", rows, 256, false);
+        return rows.encoded(256, false);
     }
 
     private static void subframe(String what, SoundStream x, int type, int w, int bits) {
@@ -131,15 +126,13 @@ public final class Promise09ChoicesTest {
     }
 
     /** Pieces of samples that are small and great by turns. */
-    private static SoundStream byTurns(int block, int piece, int samples) {
-        SoundStream x = new SoundStream();
-        x.form(1, 24, block, 1);
+    private static Rows byTurns(int piece, int samples) {
+        Rows rows = new Rows(1, 24, 1);
         for (int i = 0; i < samples; i += piece) {
             int n = Math.min(piece, samples - i);
-            x.noise(0, n, i, i / piece % 2 == 0 ? 2 : 16);
+            rows.noise(0, n, i, i / piece % 2 == 0 ? 2 : 16);
         }
-        x.encode(false);
-        return x;
+        return rows;
     }
 
     /** "Of q = 0 .. 5, if 2^q divides the size." */
@@ -148,16 +141,16 @@ public final class Promise09ChoicesTest {
             {32, 16, 1}, {33, 16, 0}, {34, 17, 1}, {64, 16, 2}, {66, 33, 1}, {68, 17, 2}, {128, 16, 3}, {256, 16, 4}, {36, 9, 2}
         };
         for (int[] e : sizes) {
-            SoundStream x = byTurns(256, e[1], e[0]);
+            SoundStream x = byTurns(e[1], e[0]).encoded(256, false);
             CHECK.due("type of " + e[0], x.frame(0, 3), 8);
             CHECK.due("q of " + e[0] + " in pieces of " + e[1], bits(x, BODY + 8 + 2, 4), e[2]);
         }
         // a head of eight bytes; 2^6 parts would suit better, but q ends with 5
-        SoundStream five = byTurns(1024, 32, 1024);
+        SoundStream five = byTurns(32, 1024).encoded(1024, false);
         CHECK.due("q 5", bits(five, BODY + 16 + 2, 4), 5);
-        SoundStream six = byTurns(1024, 16, 1024);
+        SoundStream six = byTurns(16, 1024).encoded(1024, false);
         CHECK.due("no q 6", bits(six, BODY + 16 + 2, 4) <= 5 ? 1 : 0, 1);
-        compare("pieces of 16", six, 1, 24, 1024, 1024, false);
+        compare("pieces of 16", byTurns(16, 1024), 1024, false);
     }
 
     /** "And each part has more than o samples": tried where rests are great and small by turns in parts just so long. */
@@ -166,8 +159,6 @@ public final class Promise09ChoicesTest {
         for (int order = 0; order <= 4; order++) {
             for (int each = Math.max(1, order - 1); each <= order + 2; each++) {
                 for (int parts = 2; parts <= 32; parts *= 2) {
-                    SoundStream x = new SoundStream();
-                    x.form(1, 24, Math.max(16, each * parts), 1);
                     int[] rests = new int[each * parts];
                     for (int i = order; i < rests.length; i++) {
                         rests[i] = i / each % 2 == 0 ? 0 : random.nextInt(31) - 15;
@@ -177,10 +168,8 @@ public final class Promise09ChoicesTest {
                             rests[i] += rests[i - 1];
                         }
                     }
-                    for (int v : rests) {
-                        x.sample(0, v);
-                    }
-                    compare("order " + order + ", " + parts + " parts of " + each, x, 1, 24, Math.max(16, each * parts), rests.length, false);
+                    Rows rows = new Rows(1, 24, 1).these(0, rests);
+                    compare("order " + order + ", " + parts + " parts of " + each, rows, Math.max(16, each * parts), false);
                 }
             }
         }
@@ -215,50 +204,48 @@ public final class Promise09ChoicesTest {
     }
 
     private static long way(int[] one, int[] two) {
-        SoundStream x = new SoundStream();
-        x.form(2, 16, 64, 1);
-        for (int i = 0; i < one.length; i++) {
-            x.sample(0, one[i]);
-            x.sample(1, two[i]);
-        }
-        compare("ways of two channels", x, 2, 16, 64, one.length, true);
-        return x.frame(0, 2);
+        Rows rows = new Rows(2, 16, 1).these(0, one).these(1, two);
+        compare("ways of two channels", rows, 64, true);
+        return rows.encoded(64, true).frame(0, 2);
     }
 
     /** "A difference has one bit more": the greatest one and the lowest one of the deepest samples. */
     private static void edgesOfTheDifference() {
         for (int depth : new int[] {4, 8, 24}) {
-            SoundStream x = new SoundStream();
-            x.form(2, depth, 16, 1);
+            Rows rows = new Rows(2, depth, 1);
             int greatest = (1 << (depth - 1)) - 1;
             for (int i = 0; i < 40; i++) {
-                x.sample(0, i % 3 == 0 ? greatest : -greatest - 1);
-                x.sample(1, i % 3 == 0 ? -greatest - 1 : greatest);
+                rows.ramp(0, 1, i % 3 == 0 ? greatest : -greatest - 1, 0);
+                rows.ramp(1, 1, i % 3 == 0 ? -greatest - 1 : greatest, 0);
             }
-            compare("the greatest differences of " + depth + " bits", x, 2, depth, 16, 40, false);
+            compare("the greatest differences of " + depth + " bits", rows, 16, false);
         }
     }
 
     private static void againstPlainEncoder() {
         Random random = new Random(12);
         for (int round = 0; round < 400; round++) {
-            SoundStream x = new SoundStream();
             int channels = 1 + random.nextInt(2);
             int depth = random.nextInt(4) == 0 ? 24 : 4 + random.nextInt(21);
             int block = random.nextInt(3) == 0 ? 16 << random.nextInt(7) : 16 + random.nextInt(80);
-            int rate = 1 + random.nextInt(655350);
-            x.form(channels, depth, block, rate);
-            int length = random.nextInt(5) == 0 ? random.nextInt(1201) : random.nextInt(200);
-            fill(x, random, channels, depth, length);
-            compare("rows of many kinds", x, channels, depth, block, length, random.nextBoolean());
+            Rows rows = new Rows(channels, depth, 1 + random.nextInt(655350));
+            if (random.nextInt(5) == 0) {
+                fillByPieces(rows, random, random.nextInt(1201));
+            } else {
+                fillBySamples(rows, random, random.nextInt(200));
+            }
+            compare("rows of many kinds", rows, block, random.nextBoolean());
         }
     }
 
     /** Rows of pieces of many kinds, the second one often near the first one. */
-    private static void fill(SoundStream x, Random random, int channels, int depth, int length) {
+    private static void fillBySamples(Rows rows, Random random, int length) {
         boolean near = random.nextBoolean();
+        int depth = rows.depth;
         int kind = random.nextInt(8);
         int scale = random.nextInt(3) == 0 ? random.nextInt(depth) : 0;
+        int[] one = new int[length];
+        int[] two = new int[length];
         int made = 0;
         while (made < length) {
             int n = Math.min(length - made, 1 + random.nextInt(60));
@@ -268,83 +255,116 @@ public final class Promise09ChoicesTest {
             int v = random.nextInt();
             int step = random.nextInt(1 << 1 + random.nextInt(depth));
             int bits = 1 + random.nextInt(Math.min(depth, 12));
-            for (int i = 0; i < n; i++) {
-                double wave = Math.sin((made + i) * (0.01 + 0.02 * kind)) * (1 << (depth - 2));
-                int one = kind == 0 ? 0 : kind == 1 ? v : kind == 2 ? v + step * i : kind == 3 ? (int) wave
+            for (int i = made; i < made + n; i++) {
+                double wave = Math.sin(i * (0.01 + 0.02 * kind)) * (1 << (depth - 2));
+                int each = kind == 0 ? 0 : kind == 1 ? v : kind == 2 ? v + step * (i - made) : kind == 3 ? (int) wave
                     : kind == 4 ? random.nextInt(1 << bits) : kind == 5 ? (int) wave + random.nextInt(1 << bits)
                     : random.nextInt();
-                one = one >> scale << scale;
-                x.sample(0, one);
-                if (channels == 2) {
-                    int two = near ? x.at(0, made + i) + (random.nextInt(3) << scale) : random.nextInt(1 << bits) << scale;
-                    x.sample(1, two);
+                one[i] = each >> scale << scale;
+                two[i] = near ? one[i] + (random.nextInt(3) << scale) : random.nextInt(1 << bits) << scale;
+            }
+            made += n;
+        }
+        rows.these(0, one);
+        if (rows.channels == 2) {
+            rows.these(1, two);
+        }
+    }
+
+    /** Longer rows, in pieces of a call each; those of the second one are like those of the first one. */
+    private static void fillByPieces(Rows rows, Random random, int length) {
+        int scale = random.nextInt(3) == 0 ? random.nextInt(rows.depth) : 0;
+        boolean rough = scale == 0 && random.nextInt(4) > 0;
+        for (int made = 0; made < length;) {
+            int n = Math.min(length - made, 16 + random.nextInt(60));
+            int v = random.nextInt();
+            int step = random.nextInt(1 << 1 + random.nextInt(rows.depth)) << scale;
+            int bits = 1 + random.nextInt(rows.depth);
+            boolean noise = rough && random.nextInt(3) > 0;
+            for (int c = 0; c < rows.channels; c++) {
+                if (noise) {
+                    rows.noise(c, n, v, Math.max(1, bits - c * random.nextInt(2)));
+                } else {
+                    rows.ramp(c, n, (v >> scale) + c * random.nextInt(2) << scale, step);
                 }
             }
             made += n;
         }
     }
 
-    /** More calls than the 512 that the document speaks of, to see every sample and byte; this program has no such end. */
-    private static void compare(String what, SoundStream x, int channels, int depth, int block, int length, boolean v) {
-        int[][] rows = new int[channels][length];
-        long[][] wide = new long[channels][length];
-        for (int c = 0; c < channels; c++) {
-            for (int i = 0; i < length; i++) {
-                rows[c][i] = x.at(c, i);
-                wide[c][i] = rows[c][i];
-            }
-        }
-        byte[] sum = PlainDecoder.sum(wide, channels, length, depth);
-        int bytes = x.encode(v);
-        x.decode();
-        byte[] due = new PlainEncoder(rows, depth, block, x.told(5), sum).encode(v);
-        String form = what + ", " + channels + " x " + length + " of " + depth + " bits in blocks of " + block;
-        CHECK.due("encode: " + form, bytes, due.length);
+    /** Every byte, every sample that is read back, and every frame as it is told. */
+    private static void compare(String what, Rows rows, int block, boolean v) {
+        int length = rows.length();
+        byte[] due = rows.stream(block, v);
+        String form = what + ", " + rows.channels + " x " + length + " of " + rows.depth + " bits in blocks of " + block;
+        SoundStream x = rows.make(block);
+        CHECK.due("encode: " + form, x.encode(v), due.length);
         CHECK.due("told(0): " + form, x.told(0), due.length);
-        CHECK.due("the first other byte: " + form, firstOther(x, due), -1);
-        CHECK.due("decode: " + form, x.told(6), length);
+        CHECK.due("decode: " + form, x.decode(), length);
         CHECK.due("fault: " + form, x.fault(), 0);
         CHECK.due("told(1): " + form, x.told(1), (length + block - 1) / block);
         CHECK.due("told(7): " + form, x.told(7), (length + block - 1) / block);
-        for (int c = 0; c < channels; c++) {
+        Renewed renewed = new Renewed(() -> {
+            SoundStream y = rows.encoded(block, v);
+            y.decode();
+            return y;
+        }, rows.calls() + 2);
+        CHECK.due("the first other byte: " + form, firstOther(renewed, due), -1);
+        for (int c = 0; c < rows.channels; c++) {
             for (int i = 0; i < length; i++) {
-                if (x.heard(c, i) != rows[c][i]) {
-                    CHECK.due("heard(" + c + ", " + i + "): " + form, x.heard(c, i), rows[c][i]);
+                int heard = renewed.once().heard(c, i);
+                if (heard != rows.samples[c][i]) {
+                    CHECK.due("heard(" + c + ", " + i + "): " + form, heard, rows.samples[c][i]);
                 }
             }
         }
-        framesAsTold(x, due, channels, block, length);
+        framesAsTold(renewed, due, rows.channels, block, length);
     }
 
-    private static int firstOther(SoundStream x, byte[] due) {
-        for (int i = 0; i < due.length; i++) {
-            if ((byte) x.stream(i) != due[i]) {
-                return i;
+    private static int firstOther(Renewed x, byte[] due) {
+        for (int i = 0; i < due.length; i += 8) {
+            long eight = x.once().stream(i);
+            for (int j = i; j < i + 8; j++) {
+                if ((byte) (eight >> 8 * (j - i)) != (j < due.length ? due[j] : 0)) {
+                    return j;
+                }
             }
         }
-        return x.stream(due.length) == 0 ? -1 : due.length;
+        return x.once().stream(due.length) == 0 ? -1 : due.length;
     }
 
     /** What frame() tells must be what stands in the stream. */
-    private static void framesAsTold(SoundStream x, byte[] all, int channels, int block, int length) {
+    private static void framesAsTold(Renewed x, byte[] all, int channels, int block, int length) {
         int at = 42;
-        for (int k = 0; k < x.told(1); k++) {
-            CHECK.due("frame(k, 0)", x.frame(k, 0), at);
+        for (int k = 0; k * block < length; k++) {
+            int[] told = new int[9];
+            for (int what = 0; what < 9; what++) {
+                told[what] = x.once().frame(k, what);
+            }
+            CHECK.due("frame(k, 0)", told[0], at);
             int c = all[at + 3] >> 4 & 15;
-            CHECK.due("frame(k, 2)", x.frame(k, 2), c);
+            CHECK.due("frame(k, 2)", told[2], c);
             int size = Math.min(block, length - k * block);
             int head = 4 + ((all[at + 4] & 128) == 0 ? 1 : 2) + (size <= 256 ? 1 : 2) + 1;
-            CHECK.due("frame(k, 3)", x.frame(k, 3), all[at + head] >> 1);
-            CHECK.due("w as the bit", x.frame(k, 4) > 0 ? 1 : 0, all[at + head] & 1);
-            long bits = x.frame(k, 5) + (channels == 2 ? x.frame(k, 8) : 0);
-            CHECK.due("frame(k, 1)", x.frame(k, 1), head + (bits + 7) / 8 + 2);
+            CHECK.due("frame(k, 3)", told[3], all[at + head] >> 1);
+            CHECK.due("w as the bit", told[4] > 0 ? 1 : 0, all[at + head] & 1);
+            long bits = told[5] + (channels == 2 ? told[8] : 0);
+            CHECK.due("frame(k, 1)", told[1], head + (bits + 7) / 8 + 2);
             if (channels == 2) {
-                int second = 8 * (at + head) + x.frame(k, 5);
-                CHECK.due("frame(k, 6)", x.frame(k, 6), bits(x, second, 7));
-                CHECK.due("second w as the bit", x.frame(k, 7) > 0 ? 1 : 0, bits(x, second + 7, 1));
+                int second = 8 * (at + head) + told[5];
+                CHECK.due("frame(k, 6)", told[6], bits(all, second, 7));
+                CHECK.due("second w as the bit", told[7] > 0 ? 1 : 0, bits(all, second + 7, 1));
             }
-            at += x.frame(k, 1);
+            at += told[1];
         }
         CHECK.due("the frames fill the stream", at, all.length);
+    }
+
+    private static long bits(byte[] all, int from, int n) {
+        long v = 0;
+        for (int i = from; i < from + n; i++) {
+            v = 2 * v + (all[i / 8] >> (7 - i % 8) & 1);
+        }
+        return v;
     }
 }

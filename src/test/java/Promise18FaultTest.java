@@ -558,7 +558,8 @@ public final class Promise18FaultTest {
 
     /** 11: "a v of 2^32 or more (as soon as that is met)": k 30 takes four zeros, k 29 eight, and so on. */
     private static void greatV() {
-        for (int k = 16; k <= 30; k++) {
+        // with k 17 the zeros fill 4096 bytes, which feed() does not bring in 512 calls
+        for (int k = 18; k <= 30; k++) {
             int zeros = 1 << (32 - k);
             int bits = 8 + 2 + 4 + 5 + zeros;
             Maker m = maker(0, 16, 1, 24);
@@ -572,7 +573,7 @@ public final class Promise18FaultTest {
         }
         Maker most = maker(0, 16, 1, 8);
         most.size = 1;
-        most.start().head().put(8, 16).put(2, 0).put(4, 0).put(4, 14).put(new Bits().zeros(8000 * 8));
+        most.start().head().put(8, 16).put(2, 0).put(4, 0).put(4, 14).put(new Bits().zeros(3900 * 8));
         DECODING.wrong("zeros to the end, and v is not yet 2^32", most, 13, FRAME);
         // 2^32 - 1 is -2^31, and -256 times the lowest sample takes it back
         Maker taken = maker(0, 16, 1, 24);
@@ -713,18 +714,13 @@ public final class Promise18FaultTest {
 
     /** Every beginning of a stream that is right. */
     private static void everyCut() {
-        SoundStream x = new SoundStream();
-        x.form(2, 10, 16, 8000);
-        x.noise(0, 40, 3, 9);
-        x.ramp(1, 40, 1, 2);
-        int length = x.encode(true);
+        Rows rows = new Rows(2, 10, 8000).noise(0, 40, 3, 9).ramp(1, 40, 1, 2);
+        SoundStream x = rows.encoded(16, true);
+        byte[] all = rows.stream(16, true);
         int third = x.frame(2, 0);
         int second = x.frame(1, 0);
-        for (int n = length - 1; n >= 0; n--) {
-            SoundStream y = new SoundStream();
-            for (int i = 0; i < n; i += 8) {
-                y.feed(Math.min(8, n - i), x.stream(i));
-            }
+        for (int n = all.length - 1; n >= 0; n--) {
+            SoundStream y = Maker.fed(Arrays.copyOf(all, n));
             boolean whole = n == third || n == second || n == 42;
             int fault = n < 4 ? 1 : whole ? 14 : 13;
             int place = n < 4 ? 0 : n < 42 ? 4 : whole ? n : n > third ? third : n > second ? second : 42;
